@@ -1,0 +1,37 @@
+/** Promise 5. */
+public final class FunctionsTest {
+    public static void main(String[] args) {
+        Check check = new Check();
+        GasContract x = Check.with("fn a(){}fn b(x){}fn c(x,y){}fn d(x,y,z){}");
+        check.dueThrow("functions(0) ahead of compile", IllegalStateException.class, () -> x.functions(0));
+        check.dueThrow("functions(9) ahead of compile", IllegalStateException.class, () -> x.functions(9));
+        x.compile();
+        check.due("functions(-1)", x.functions(-1), 4);
+        for (int f = 0; f < 4; f++) {
+            check.due("functions(" + f + ")", x.functions(f), f);
+        }
+        for (int f : new int[] {4, 8, -2, Integer.MIN_VALUE, Integer.MAX_VALUE}) {
+            check.dueThrow("functions(" + f + ")", IndexOutOfBoundsException.class, () -> x.functions(f));
+        }
+        aFaultKeepsTheContract(check, x);
+        aNewContractHasItsOwn(check, x);
+        check.finish();
+    }
+
+    private static void aFaultKeepsTheContract(Check check, GasContract x) {
+        x.end(0);
+        Check.write(x, "fn q(x){}fn q");
+        check.due("compile()", x.compile(), 12);
+        check.due("functions(-1)", x.functions(-1), 4);
+        check.due("functions(0)", x.functions(0), 0);
+        check.due("functions(3)", x.functions(3), 3);
+    }
+
+    private static void aNewContractHasItsOwn(Check check, GasContract x) {
+        x.end(9);
+        check.due("compile()", x.compile(), GasContract.NONE);
+        check.due("functions(-1)", x.functions(-1), 1);
+        check.due("functions(0)", x.functions(0), 1);
+        check.dueThrow("functions(1)", IndexOutOfBoundsException.class, () -> x.functions(1));
+    }
+}
