@@ -18,6 +18,7 @@ public final class CallTest {
         refusedInsideACall(check);
         gasEndsEveryLoop(check);
         deepestStack(check);
+        nothingIsLeftOfEarlierOnes(check);
         check.finish();
     }
 
@@ -76,6 +77,10 @@ public final class CallTest {
         check.dueRun("fn f(){if !true" + tell, 2, 8);
         check.dueRun("fn f(){if !!true" + tell, 1, 10);
         check.dueRun("fn f(){if true==false" + tell, 2, 9);
+        for (String comparison : new String[] {"1==1", "1!=2", "1<2", "1<=2"}) {
+            check.dueRun("fn f(){if true==(" + comparison + ")" + tell, 1, 12);
+            check.dueRun("fn f(){if !(" + comparison + ")==false" + tell, 1, 14);
+        }
         check.dueRun("fn f(a){if (a<1)!=(a<2)" + tell, 1, 15, 1);
         check.dueRun("fn f(){if false||true&&false" + tell, 2, 12);
         check.dueRun("fn f(){if true||true&&false" + tell, 1, 8);
@@ -192,5 +197,18 @@ public final class CallTest {
         check.due("g(0, 0, 11)", x.call(0, 50000, 0, 0, 11), DONE);
         check.due("result(0)", x.result(0), 2);
         check.due("g(0, 0, 12)", x.call(0, 50000, 0, 0, 12), FAILED);
+    }
+
+    private static void nothingIsLeftOfEarlierOnes(Check check) {
+        GasContract x = Check.compiled("fn w(a){let b=9;let c=true;return b;}"
+                + "fn u(a){if a<0{let b=7;let c=true;}if c{return 1;}return b;}"
+                + "fn v(a){let p=w(1);return u(1);}fn z(){return 1+2*(3+4*(5+6*(7/0)));}");
+        check.dueCall(x, 0, 99, Check.abc(0, 0, 0), DONE, 9, 9);
+        check.dueCall(x, 1, 99, Check.abc(0, 0, 0), DONE, 0, 12);
+        check.dueCall(x, 2, 99, Check.abc(0, 0, 0), DONE, 0, 22 + 25);
+        for (int i = 0; i < 400; i++) {
+            check.due("z()", x.call(3, 99, 0, 0, 0), FAILED);
+        }
+        check.dueCall(x, 2, 99, Check.abc(0, 0, 0), DONE, 0, 22 + 25);
     }
 }

@@ -8,6 +8,7 @@ public final class CompileTest {
         textsAndFunctions(check);
         statements(check);
         expressions(check);
+        brackets(check);
         names(check);
         limits(check);
         depths(check);
@@ -159,6 +160,21 @@ public final class CompileTest {
         check.dueMarked("fn f(){require true^(1);}");
     }
 
+    private static void brackets(Check check) {
+        String[] all = {"(", ")", "{", "}", "[", "]"};
+        String[][] around = {
+            {"fn f", "(", "){}"}, {"fn f(a", ")", "{}"}, {"fn f()", "{", "}"}, {"fn f(){let a=1;", "}", ""},
+            {"fn f(){store", "[", "1]=1;}"}, {"fn f(){store[1", "]", "=1;}"}, {"fn f(){return load", "[", "1];}"},
+            {"fn f(){return load[1", "]", ";}"}, {"fn f(){return ", "(", "1);}"}, {"fn f(){return (1", ")", ";}"},
+            {"fn f(a){return f(1", ")", ";}"}, {"fn f(){if true", "{", "}}"}, {"fn f(){while true{", "}", "}"}};
+        for (String[] three : around) {
+            for (String bracket : all) {
+                boolean right = bracket.equals(three[1]);
+                check.dueMarked(three[0] + (right ? "" : "^") + bracket + three[2]);
+            }
+        }
+    }
+
     private static void names(Check check) {
         check.dueMarked("fn f(){}fn ^f(){}");
         check.dueMarked("fn f(){}fn g(){}fn ^f @");
@@ -213,6 +229,9 @@ public final class CompileTest {
         check.dueMarked("fn " + "n".repeat(290) + "(){return " + "n".repeat(290) + "(" + ");}");
         check.dueMarked("fn f(){return " + "1+".repeat(291) + "1;}");
         check.dueMarked("fn f(){" + "return 1;".repeat(65) + "}");
+        check.dueMarked("^" + "(".repeat(600));
+        check.dueMarked("fn f(){^" + "(".repeat(593));
+        check.dueMarked("fn f(){return " + "1+".repeat(293) + "^");
     }
 
     private static void depths(Check check) {
@@ -233,6 +252,9 @@ public final class CompileTest {
         check.dueMarked("fn f(){" + "while true{".repeat(15) + "store^[1]=1;");
         check.dueMarked("fn f(){" + "while true{".repeat(15) + "return ^-1;");
         check.dueMarked("fn f(){" + "while true{".repeat(15) + "return 1-1;" + "}".repeat(16));
+        String fifteen = "(".repeat(15) + "1" + ")".repeat(15);
+        check.dueMarked("fn f(){let a=" + fifteen + ";a=" + fifteen + ";store[1]=" + fifteen + ";}");
+        check.dueMarked("fn f(){if 1==" + fifteen + "{}while 1==" + fifteen + "{}require 1==" + fifteen + ";}");
         check.dueMarked("fn f(){" + "while true{".repeat(14) + "store[1]=-1;store[^-1]=1;");
         check.dueMarked("fn f(a){store[-(f(load[" + "(".repeat(10) + "1" + ")".repeat(10) + "]))]=1;}");
         check.dueMarked("fn f(a){store[-(f(load[" + "(".repeat(10) + "^(1");
