@@ -15,7 +15,29 @@ public final class FunctionsTest {
         }
         aFaultKeepsTheContract(check, x);
         aNewContractHasItsOwn(check, x);
+        aFaultMakesNoContract(check);
+        eightFunctions(check);
         check.finish();
+    }
+
+    private static void aFaultMakesNoContract(Check check) {
+        GasContract x = Check.with("fn f(){}fn g(){}@");
+        check.due("compile()", x.compile(), 16);
+        check.dueThrow("functions(-1) behind a fault", IllegalStateException.class, () -> x.functions(-1));
+        check.dueThrow("functions(0) behind a fault", IllegalStateException.class, () -> x.functions(0));
+        check.dueThrow("call behind a fault", IllegalStateException.class, () -> x.call(0, 9, 0, 0, 0));
+        x.end(16);
+        check.due("compile()", x.compile(), GasContract.NONE);
+        check.due("functions(-1)", x.functions(-1), 2);
+    }
+
+    private static void eightFunctions(Check check) {
+        GasContract x = Check.compiled("fn a(){}fn b(){}fn c(){}fn d(){}fn e(){}fn f(){}fn g(){}fn h(x,y,z){return x;}");
+        check.due("functions(-1)", x.functions(-1), 8);
+        check.due("functions(7)", x.functions(7), 3);
+        check.dueThrow("functions(8)", IndexOutOfBoundsException.class, () -> x.functions(8));
+        check.dueThrow("call(8)", IndexOutOfBoundsException.class, () -> x.call(8, 9, 0, 0, 0));
+        check.dueCall(x, 7, 9, Check.abc(4, 5, 6), 0, 4, 3);
     }
 
     private static void aFaultKeepsTheContract(Check check, GasContract x) {
