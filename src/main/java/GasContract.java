@@ -242,8 +242,9 @@ public final class GasContract {
             if (stops[other] - against != many) {
                 return false;
             }
-            for (int i = 0; i < many; i++) {
-                if (signAt(from + i) != signAt(against + i)) {
+            // Reads the row itself: through signAt, a name in an E would lie one call too deep.
+            for (int i = 0; i < many && Math.max(from, against) + i < signs.length; i++) {
+                if (signs[from + i] != signs[against + i]) {
                     return false;
                 }
             }

@@ -40,6 +40,10 @@ public final class TextBoundaryTest {
         check.dueMarked("fn f(){return 1" + "+1".repeat(291) + ";}");
         check.dueMarked("fn " + "f".repeat(592) + "(){}");
         check.dueMarked("fn f(){}" + " ".repeat(591) + "^;");
+        check.dueMarked("^" + ";".repeat(600));
+        check.dueMarked("fn f(a){" + "a=1;".repeat(148) + "^");
+        check.dueMarked("fn f(a){" + "a=1;".repeat(147) + "a=^&;");
+        check.dueMarked("fn f(a){a=1" + "+1".repeat(293) + ";}^;");
     }
 
     /** "signs, 0 .. 127"; "IllegalArgumentException if a byte is above 127". */

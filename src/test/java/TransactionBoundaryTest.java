@@ -15,6 +15,8 @@ public final class TransactionBoundaryTest {
         returnAndTheEnd(check);
         intsWrap(check);
         towards0(check);
+        comparisons(check);
+        bools(check);
         secondPartsNotReckoned(check);
         by0(check);
         twelveCalls(check);
@@ -163,6 +165,49 @@ public final class TransactionBoundaryTest {
             check.dueRun("fn f(a,b){return a/b;}", row[2], 6, row[0], row[1]);
             check.dueRun("fn f(a,b){return a%b;}", row[3], 6, row[0], row[1]);
         }
+    }
+
+    /** "< <= of ints, == and != of two alike": of ints that are alike, next to one another, and the least and the greatest. */
+    private static void comparisons(Check check) {
+        int[] ints = {Integer.MIN_VALUE, Integer.MIN_VALUE + 1, -1, 0, 1, Integer.MAX_VALUE - 1, Integer.MAX_VALUE};
+        String tell = "{return 1;}return 0;}";
+        GasContract x = Check.compiled("fn e(a,b){if a==b" + tell + "fn u(a,b){if a!=b" + tell + "fn l(a,b){if a<b" + tell
+                + "fn m(a,b){if a<=b" + tell);
+        for (int a : ints) {
+            for (int b : ints) {
+                boolean[] due = {a == b, a != b, a < b, a <= b};
+                for (int f = 0; f < due.length; f++) {
+                    check.dueCall(x, f, 9, Check.abc(a, b, 0), DONE, due[f] ? 1 : 0, 9);
+                }
+            }
+        }
+    }
+
+    /** "== and != of two alike, ! && || of bools": every bool there is, from true and false and from each operation. */
+    private static void bools(Check check) {
+        String[] trues = {"true", "!false", "1==1", "1!=2", "1<2", "2<=2", "true&&true", "false||true", "!(1<1)", "!!true"};
+        String[] falses = {"false", "!true", "1==2", "1!=1", "2<2", "3<=2", "true&&false", "false||false", "!(1<2)", "!!false"};
+        for (int i = 0; i < trues.length; i++) {
+            for (int j = 0; j < trues.length; j++) {
+                String t = "(" + trues[i] + ")";
+                String f = "(" + falses[j] + ")";
+                hold(check, t + "==!" + f);
+                hold(check, t + "!=" + f);
+                hold(check, "!(" + t + "==" + f + ")");
+                hold(check, t + "==(" + trues[j] + ")");
+                hold(check, f + "==(" + falses[i] + ")");
+                hold(check, "!(" + t + "!=(" + trues[j] + "))");
+                hold(check, t + "||" + f);
+                hold(check, f + "||" + t);
+                hold(check, "!(" + t + "&&" + f + ")");
+                hold(check, "!(" + f + "&&" + t + ")");
+            }
+        }
+    }
+
+    private static void hold(Check check, String bool) {
+        GasContract x = Check.compiled("fn f(){require " + bool + ";}");
+        check.due("require " + bool, x.call(0, 999, 0, 0, 0), DONE);
     }
 
     /** "&& and || don't reckon their second part if the first one tells." */
