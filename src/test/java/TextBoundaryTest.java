@@ -9,6 +9,7 @@ public final class TextBoundaryTest {
         signsUpTo127(check);
         zerosAreLeftOut(check);
         justItsFirstSigns(check);
+        nothingBehindTheEndIsRead(check);
         longestTokens(check);
         everySignBehindAText(check);
         everySignBehindANumber(check);
@@ -103,6 +104,27 @@ public final class TextBoundaryTest {
             check.due("signs", x.put(0), n);
             boolean onlyAName = n == 1;
             check.due("the fault of " + n + " signs", x.compile(), onlyAName ? 0 : n);
+        }
+    }
+
+    /** What was behind the end makes no token longer. */
+    private static void nothingBehindTheEndIsRead(Check check) {
+        String[] cut = {"fn f(a){a=~=1;}", "fn f(a){require a<~=1;}", "fn f(a){let b=true;b=b!~=b;}",
+            "fn f(){require true&~&true;}", "fn f(){require true|~|true;}", "fn f(){let a1=1;a1=a~1;}",
+            "fn f(){return 214748364~8;}", "fn f(){let a=1~+1;}", "fn f(){let~ter=1;}"};
+        int[] due = {10, 18, 22, 19, 19, 19, 23, 14, 10};
+        for (int i = 0; i < cut.length; i++) {
+            int end = cut[i].indexOf('~');
+            GasContract x = Check.with(cut[i].replace("~", ""));
+            x.end(end);
+            check.due("the fault of " + cut[i] + " up to ~", x.compile(), due[i]);
+        }
+        String whole = "fn f(a1,a){let b=a1==1&&a!=2||a1<=3;require !b;while b{store[a1]=load[a]-214748;}return f(a1,a);}fn g(){}";
+        for (int n = 0; n <= whole.length(); n++) {
+            GasContract x = Check.with(whole);
+            x.end(n);
+            check.due("the fault of " + n + " signs", x.compile(), Check.with(whole.substring(0, n)).compile());
+            check.due("signs", x.put(0), n);
         }
     }
 

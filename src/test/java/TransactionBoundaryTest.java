@@ -13,6 +13,7 @@ public final class TransactionBoundaryTest {
         oneByOne(check);
         letsThatWereNotDone(check);
         returnAndTheEnd(check);
+        partsWaitForACall(check);
         intsWrap(check);
         towards0(check);
         comparisons(check);
@@ -131,6 +132,18 @@ public final class TransactionBoundaryTest {
         check.dueRun("fn f(a){if a==1{return 5;}}", 0, 6, 2);
         GasContract x = Check.compiled("fn e(a){a=9;}fn r(a){return a;return 1;}fn g(){return r(3)+e(4)+r(5);}");
         check.dueCall(x, 2, 99, NOTHING, DONE, 8, 3 * 11 + 3 + 3 + 3 + 4 + 2);
+    }
+
+    /** The parts of an E that were reckoned ahead of a call are there behind it, whatever its statements are. */
+    private static void partsWaitForACall(Check check) {
+        GasContract x = Check.compiled("fn f(n){while 0<n{n=n-1;}if n==0{}else{}return 5;}"
+                + "fn g(){return 100-f(3)*f(2);}fn h(n){if n==1{n=2;}else{store[7]=n;}let a=n;require 0<a||a<=0&&n<0;}"
+                + "fn i(){store[8-h(1)]=9-h(2);let b=7==7+h(3);require b;return 10*(4-h(1))-h(5);}");
+        check.dueCall(x, 1, 119, Check.abc(0, 0, 0), DONE, 75, 1 + 62 + 50 + 6);
+        check.due("statements of every kind", x.call(3, 999, 0, 0, 0), DONE);
+        check.due("result(0)", x.result(0), 40);
+        check.due("load(8)", x.load(8), 9);
+        check.due("load(7)", x.load(7), 5);
     }
 
     /** "Ints wrap". */
