@@ -363,6 +363,7 @@ public final class CompileTest {
         check.dueMarked("fn f(){^store[true]@");
     }
 
+    /** "NONE if it is accepted (it is the contract then), otherwise its fault (the contract before stays)." */
     private static void stateOfTheObject(Check check) {
         GasContract x = Check.with("fn f(){return 1;}");
         check.due("compile()", x.compile(), GasContract.NONE);

@@ -1,4 +1,7 @@
-/** Promise 3. */
+/**
+ * Promise 3: "The text has just its first n signs. IllegalArgumentException if n is below 0 or above how many
+ * there are."
+ */
 public final class EndTest {
     public static void main(String[] args) {
         Check check = new Check();

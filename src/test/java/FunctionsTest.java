@@ -1,4 +1,7 @@
-/** Promise 5. */
+/**
+ * Promise 5: "Of the contract: how many functions (f = -1), or how many parameters function f has.
+ * IllegalStateException if there is none; IndexOutOfBoundsException if there is no such function."
+ */
 public final class FunctionsTest {
     public static void main(String[] args) {
         Check check = new Check();
@@ -20,6 +23,7 @@ public final class FunctionsTest {
         check.finish();
     }
 
+    /** "IllegalStateException if there is none": nor is there one behind a fault. */
     private static void aFaultMakesNoContract(Check check) {
         GasContract x = Check.with("fn f(){}fn g(){}@");
         check.due("compile()", x.compile(), 16);
@@ -31,6 +35,7 @@ public final class FunctionsTest {
         check.due("functions(-1)", x.functions(-1), 2);
     }
 
+    /** "IndexOutOfBoundsException if there is no such function": behind the last of as many as there can be. */
     private static void eightFunctions(Check check) {
         GasContract x = Check.compiled("fn a(){}fn b(){}fn c(){}fn d(){}fn e(){}fn f(){}fn g(){}fn h(x,y,z){return x;}");
         check.due("functions(-1)", x.functions(-1), 8);
@@ -40,6 +45,7 @@ public final class FunctionsTest {
         check.dueCall(x, 7, 9, Check.abc(4, 5, 6), 0, 4, 3);
     }
 
+    /** "otherwise its fault (the contract before stays)". */
     private static void aFaultKeepsTheContract(Check check, GasContract x) {
         x.end(0);
         Check.write(x, "fn q(x){}fn q");
@@ -49,6 +55,7 @@ public final class FunctionsTest {
         check.due("functions(3)", x.functions(3), 3);
     }
 
+    /** "NONE if it is accepted (it is the contract then)". */
     private static void aNewContractHasItsOwn(Check check, GasContract x) {
         x.end(9);
         check.due("compile()", x.compile(), GasContract.NONE);

@@ -1,4 +1,4 @@
-/** Promise 1. */
+/** Promise 1: "An empty text, an empty store; nothing is compiled." */
 public final class NewObjectTest {
     public static void main(String[] args) {
         Check check = new Check();

@@ -1,4 +1,7 @@
-/** Promise 2. */
+/**
+ * Promise 2: "Four more signs, the lowest byte first (those that are 0 are left out): how many there are.
+ * IllegalArgumentException if a byte is above 127; UnsupportedOperationException if there would be more than 600."
+ */
 public final class PutTest {
     public static void main(String[] args) {
         Check check = new Check();

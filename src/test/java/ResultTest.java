@@ -1,4 +1,7 @@
-/** Promise 7. */
+/**
+ * Promise 7: "Of the latest transaction: 0 what it gave (0 if it failed or was refused), 1 what it was
+ * charged, 2 how many there were since the beginning. IllegalArgumentException for another what."
+ */
 public final class ResultTest {
     public static void main(String[] args) {
         Check check = new Check();
@@ -20,6 +23,7 @@ public final class ResultTest {
         check.finish();
     }
 
+    /** "A call that throws changes nothing." */
     private static void callsThatThrowAreNone(Check check, GasContract x) {
         check.dueThrow("no such function", IndexOutOfBoundsException.class, () -> x.call(1, 1, 1, 1, 1));
         check.dueThrow("no such gas", IllegalArgumentException.class, () -> x.call(0, -1, 1, 1, 1));

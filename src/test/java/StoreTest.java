@@ -1,4 +1,7 @@
-/** Promises 8 and 9, and the store's limit. */
+/**
+ * Promises 8 ("A number of the store.") and 9 ("How many numbers of the store are other than 0."), and
+ * the store's limit.
+ */
 public final class StoreTest {
     private static final String TEXT = "fn set(k,v){store[k]=v;}"
             + "fn fill(k,n){while 0<n{store[k+n]=n;n=n-1;}}"
@@ -83,6 +86,7 @@ public final class StoreTest {
         check.due("load(109)", x.load(109), 0);
     }
 
+    /** Promise 4: "The store stays." */
     private static void compileKeepsTheStore(Check check) {
         GasContract x = Check.compiled(TEXT);
         x.call(SET, 100, 4, 44, 0);
