@@ -49,8 +49,8 @@ public final class TextBoundaryTest {
 
     /** "signs, 0 .. 127"; "IllegalArgumentException if a byte is above 127". */
     private static void signsUpTo127(Check check) {
-        GasContract x = new GasContract();
         for (int shift = 0; shift < 32; shift += 8) {
+            GasContract x = new GasContract();
             for (int sign = 1; sign <= 255; sign++) {
                 int signs = sign << shift;
                 if (sign > 127) {
@@ -61,6 +61,7 @@ public final class TextBoundaryTest {
                 }
             }
         }
+        GasContract x = new GasContract();
         check.dueThrow("127 and 128", IllegalArgumentException.class, () -> x.put(0x7f7f807f));
         check.due("four of 127", x.put(0x7f7f7f7f), 4);
     }

@@ -184,9 +184,10 @@ public final class TransactionBoundaryTest {
     private static void comparisons(Check check) {
         int[] ints = {Integer.MIN_VALUE, Integer.MIN_VALUE + 1, -1, 0, 1, Integer.MAX_VALUE - 1, Integer.MAX_VALUE};
         String tell = "{return 1;}return 0;}";
-        GasContract x = Check.compiled("fn e(a,b){if a==b" + tell + "fn u(a,b){if a!=b" + tell + "fn l(a,b){if a<b" + tell
-                + "fn m(a,b){if a<=b" + tell);
+        String text = "fn e(a,b){if a==b" + tell + "fn u(a,b){if a!=b" + tell + "fn l(a,b){if a<b" + tell
+                + "fn m(a,b){if a<=b" + tell;
         for (int a : ints) {
+            GasContract x = Check.compiled(text);
             for (int b : ints) {
                 boolean[] due = {a == b, a != b, a < b, a <= b};
                 for (int f = 0; f < due.length; f++) {
@@ -279,13 +280,13 @@ public final class TransactionBoundaryTest {
 
     /** "or if its COST is above the limit"; "Otherwise it is charged its cost." */
     private static void costAboveTheLimit(Check check) {
-        GasContract x = Check.compiled("fn f(n){store[1]=n;let s=0;while s<n{s=s+1;}return load[1]+s;}");
         for (int n = 0; n < 4; n++) {
+            GasContract x = Check.compiled("fn f(n){store[1]=n;let s=0;while s<n{s=s+1;}return load[1]+s;}");
             int cost = 42 + 3 + 12 * n + 6 + 26;
             for (int gas = 0; gas < cost; gas++) {
                 check.dueCall(x, 0, gas, Check.abc(n, 0, 0), FAILED, 0, gas);
             }
-            check.due("load(1)", x.load(1), Math.max(n - 1, 0));
+            check.due("stored()", x.stored(), 0);
             check.dueCall(x, 0, cost, Check.abc(n, 0, 0), DONE, 2 * n, cost);
             check.dueCall(x, 0, cost + 1, Check.abc(n, 0, 0), DONE, 2 * n, cost);
             check.dueCall(x, 0, 50000, Check.abc(n, 0, 0), DONE, 2 * n, cost);
