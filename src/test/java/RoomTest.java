@@ -2,7 +2,8 @@ import java.lang.management.ManagementFactory;
 
 /** All calls of an object live in one room: an object is small, and its calls make next to nothing. */
 public final class RoomTest {
-    private static final int CALLS = 512;
+    // With the calls that put the text, either object stays below 512.
+    private static final int TURNS = 140;
 
     public static void main(String[] args) {
         Check check = new Check();
@@ -13,17 +14,17 @@ public final class RoomTest {
         GasContract bad = Check.with(fault);
         check.due("two objects are small", small(before, 200_000), 1);
         before = allocated();
-        for (int i = 0; i < CALLS; i++) {
+        for (int i = 0; i < TURNS; i++) {
             good.compile();
             good.call(0, 50000, i, i, i);
             good.load(i);
         }
-        check.due("calls of a good text make next to nothing", small(before, 100_000), 1);
+        check.due("calls of a good text make next to nothing", small(before, 30_000), 1);
         before = allocated();
-        for (int i = 0; i < CALLS; i++) {
+        for (int i = 0; i < TURNS; i++) {
             bad.compile();
         }
-        check.due("a fault makes one exception", small(before, CALLS * 4_000), 1);
+        check.due("a fault makes one exception", small(before, TURNS * 4_000), 1);
         check.finish();
     }
 
